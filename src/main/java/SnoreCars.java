@@ -20,7 +20,8 @@ public final class SnoreCars {
     private static final long SEED_TIMES = 1103515245, SEED_AND = 12345, LAST_SEED = 2147483647;
     private static final int SEED_PARTS = 65536;
     private static final int LULL_DRAW = 5, MOST_MAKINGS_UP = 1 << (2 * MOST_SLEEPERS);
-    private static final int MOST_STEPS = MOST_SLEEPERS * MOST_CARS + MOST_SLEEPERS * MOST_SLEEPERS;
+    private static final int MOST_PUTS = MOST_SLEEPERS * (MOST_CARS - 1);
+    private static final int MOST_STEPS = MOST_PUTS + MOST_SLEEPERS * (MOST_SLEEPERS - 1) / 2;
 
     private final Text text;
     private Train train;
@@ -347,7 +348,7 @@ public final class SnoreCars {
         int most = 0;
         for (int k = 0; k < train.cars; k++) {
             if (k == own || !isFull(train, night.crews, k)) {
-                trialNight.copy(night);
+                trialNight.lieAs(night);
                 trialNight.lead(s, k);
                 int woken = Integer.bitCount(ear.morning(trialNight.crews, 0, 0));
                 most = Math.max(most, woken);
@@ -844,13 +845,10 @@ public final class SnoreCars {
             hour = 0;
         }
 
-        void copy(Night other) {
+        void lieAs(Night other) {
             for (int k = 0; k < crews.length; k++) {
                 crews[k] = at(other.crews, k);
             }
-            awake = other.awake;
-            hour = other.hour;
-            seed = other.seed;
         }
 
         int inCars() {

@@ -22,6 +22,7 @@ public final class PromiseTests {
         faultsOfNumbers();
         faultsOfOrder();
         trainChanges();
+        trainAfterTrain();
         told();
         car();
         sleeper();
@@ -180,6 +181,7 @@ public final class PromiseTests {
         read("k1;s0 0 0 0 0;s0 0 0 0 0;c0;", -11, 27);
         read("k1;s0 0 0 0 0;s0 0 0 0 0;c0 1 1;", -11, 30);
         read("k1;s0 0 0 0 0;s0 0 0 0 0;c0 1", -11, 29);
+        read("k1;s0 0 0 0 0;s0 0 0 0 0;c0 1,", -11, 29);
     }
 
     private static void faultsOfNumbers() {
@@ -251,6 +253,21 @@ public final class PromiseTests {
         same("the text is gone", x.told(4), 0);
         same("the image as it was", x.goBack(0), 1);
         x.off(0);
+        feed(x, "k1; s0 9 9 9 11;    ");
+        same("a longer train", x.train(), 1);
+        String[] parts = {"k1;s0 9 9 9", "k", "k1", "k1;", "k1;s0 9 9 9 1", "k1; "};
+        int[] ends = {-11, -11, -11, 1, -14, 1};
+        int[] places = {11, 1, 2, NONE, 12, NONE};
+        for (int i = 0; i < parts.length; i++) {
+            feed(x, parts[i]);
+            same("what was told before is not read: " + parts[i], x.train(), ends[i]);
+            same("its place", x.fault(), places[i]);
+        }
+        feed(x, COAST);
+        same("the coast", x.train(), 2);
+        x.write(0, false);
+        x.put(0, 1);
+        x.hour(2);
         feed(x, "k3;s5 1 2 3 4;");
         same("a new train", x.train(), 1);
         int[] due = {1, 1, 0, 57, 0, 0, 0, 1, 0, 0};
@@ -267,6 +284,25 @@ public final class PromiseTests {
         same("no cars", x.told(0), 0);
         same("no sleepers", x.told(1), 0);
         same("the law untold", x.told(3), 57);
+    }
+
+    private static void trainAfterTrain() {
+        SnoreCars x = new SnoreCars();
+        for (int n = 0; n < 4; n++) {
+            feed(x, "k2,3;i2,5;s0 6 3 9 12;s4 5 4 2 8;c0 1;");
+            same("train with a law", x.train(), 2);
+            same("couples", x.told(2), 1);
+            same("law", x.told(3), 36);
+            same("the mate", x.sleeper(1, 7), 0);
+            feed(x, "k1;s0 6 3 0 2;s4 5 4 2 3;s4 5 4 2 3;");
+            same("train without", x.train(), 1);
+            same("no couples", x.told(2), 0);
+            same("the law untold", x.told(3), 57);
+            same("no mate", x.sleeper(1, 7), NONE);
+            x.put(0, 0);
+            same("hours of before are gone", x.sounds(0, 9, 0), 0);
+            same("hours of now", x.sounds(0, 1, 0), 1);
+        }
     }
 
     private static void told() {
@@ -332,6 +368,11 @@ public final class PromiseTests {
         same("its car", x.sleeper(0, 5), NONE);
         x.hour(12);
         same("noise in the morning", x.sleeper(1, 8), 0);
+        SnoreCars first = lying(of("k2;s0 9 40 0 12;s1 9 40 0 12;"), 0, 0);
+        same("the last hour", first.hour(11), 11);
+        same("noise of the last hour", first.sleeper(1, 8), 9);
+        first.hour(1);
+        same("nobody snores in the morning", first.sleeper(1, 8), 0);
         SnoreCars loud = lying(of("k3;s0 9 40 0 12;s1 8 40 0 12;s2 7 40 0 12;"), 0, 0, 0);
         same("noise of two together", loud.sleeper(0, 8), 15);
         for (int odd : ODD) {
@@ -583,6 +624,13 @@ public final class PromiseTests {
         SnoreCars woken = lying(of("k2;s0 9 9 0 1;s1 9 0 1 2;s1 9 0 9 12;"), 0, 0);
         woken.put(2, 0);
         same("who will be awake by then does not snore", woken.shunted(0), NONE);
+        SnoreCars three = lying(of("k3;s0 9 9 0 1;s1 9 0 1 3;s2 1 9 1 3;"), 0, 0, 0);
+        same("woken at hour 0, silent at hour 1", three.shunted(0), NONE);
+        three.hour(1);
+        same("awake now, silent from now on", three.shunted(1), NONE);
+        three.evening();
+        three.off(0);
+        same("unwoken, it is heard", three.shunted(0), 1);
         SnoreCars late = lying(of("k2;s0 9 40 11 12;s1 9 40 11 12;"), 0, 0);
         same("hour 11", late.shunted(0), 11);
         late.hour(12);
@@ -616,9 +664,21 @@ public final class PromiseTests {
         same("a couple wakes", loud.madeUp(NONE), 4);
         same("without SLEEPERS 0", of("k4;").madeUp(NONE), 0);
         same("without SLEEPERS nobody", of("k4;").madeUp(0), UNKNOWN);
-        feed(x, "k1,1;s0 9 0 0 12;s1 9 0 0 12;");
-        x.train();
-        same("made up of the train of now", x.madeUp(1), 1);
+        for (int n = 0; n < 2; n++) {
+            feed(x, "k1,1;s0 9 0 0 12;s1 9 0 0 12;");
+            x.train();
+            same("made up of the train of now", x.madeUp(1), 1);
+            feed(x, "k1,2;s0 9 8 0 1;s1 9 9 0 1;c0 1;");
+            x.train();
+            same("made up of the train of now: at hour 0", x.madeUp(NONE), 1);
+            same("made up of the train of now", x.madeUp(0), 1);
+        }
+        SnoreCars like = of("k2,2;s0 9 0 0 12;s1 9 0 0 12;s3 0 0 0 0;s5 0 0 0 0;c1 0;");
+        same("a couple wakes, whatever is done", like.madeUp(NONE), 2);
+        int[] first = {0, 0, 1, 1};
+        for (int s = 0; s < first.length; s++) {
+            same("the first of like ones", like.madeUp(s), first[s]);
+        }
     }
 
     private static void moves() {
@@ -639,6 +699,19 @@ public final class PromiseTests {
         SnoreCars platform = lying(of("k2;s0 9 3 0 12;s1 9 3 0 12;"), 0, 0);
         same("no other car", platform.moves(NONE), NONE);
         same("no other car", platform.moves(0), NONE);
+        SnoreCars past = lying(of("k2,2;s0 9 3 0 2;s1 9 3 0 2;s3 1 1 0 0;"), 0, 1);
+        past.hour(2);
+        past.off(1);
+        past.put(1, 0);
+        same("hours that are past wake nobody", past.moves(NONE), 0);
+        past.evening();
+        same("from a new evening they do", past.moves(0), 1);
+        past.put(2, 1);
+        same("one put into a car that is not empty", past.moves(0), 1);
+        SnoreCars second = lying(of("k1,2,1;s9 0 40 0 0;s0 9 3 0 12;s1 9 3 0 12;s8 9 0 0 0;"), 2, 1, 1);
+        same("another car is free", second.moves(0), 10);
+        second.put(3, 0);
+        same("an exchange with one in another car", second.moves(0), 101);
         SnoreCars awake = lying(of("k2;s0 9 3 0 12;s1 9 3 0 12;"), 0, 0);
         awake.hour(1);
         same("who is awake now is left so", awake.moves(NONE), 0);
@@ -657,6 +730,21 @@ public final class PromiseTests {
         same("1 into car 2", z.moves(1), 12);
         same("no third", z.moves(2), NONE);
         same("nothing changes", z.car(0, 1), 7);
+        SnoreCars pair = lying(of("k2,2,1;s4 0 40 0 0;s4 9 3 0 12;s5 9 3 0 12;s4 0 9 0 0;s0 9 3 0 12;"), 1, 0, 0);
+        pair.put(4, 1);
+        same("a put alone: into car 2", pair.moves(0), 12);
+        pair.put(3, 2);
+        same("0, 1 and 2 in tune, or 4 with 1", pair.moves(NONE), 1);
+        same("0 and 1 change", pair.moves(0), 101);
+        pair.off(0);
+        pair.off(3);
+        pair.put(3, 1);
+        same("who is on the platform is not moved: 1 into car 2", pair.moves(0), 12);
+        SnoreCars swaps = lying(of("k2,2,2;i3;s0 9 0 0 12;s3 9 0 0 12;s1 9 0 0 12;s4 9 0 0 12;s2 9 0 0 12;s5 9 0 0 12;"),
+            0, 1, 2, 0, 1, 2);
+        same("three pairs by two exchanges", swaps.moves(NONE), 2);
+        same("0 and 2 change: pitches 1 and 4", swaps.moves(0), 102);
+        same("then 0 and 4: 0 and 3, 2 and 5", swaps.moves(1), 104);
         SnoreCars three = lying(of("k4,1,1,1;s0 9 0 0 12;s1 9 0 0 12;s2 9 0 0 12;s3 9 0 0 12;i0;"), 0, 0, 0, 0);
         same("three are too many", three.moves(NONE), NONE);
     }
@@ -679,6 +767,9 @@ public final class PromiseTests {
         same("0 and 2 are left out of tune", two.laws(3, 1), 40);
         SnoreCars like = lying(of("k3;s0 9 0 0 12;s2 5 17 0 12;s5 9 0 0 12;i6;"), 0, 0, 0);
         same("the least of like ones", like.laws(5, 1), 4);
+        SnoreCars fewer = lying(of("k4;s0 0 4 0 1;s0 2 40 0 1;s1 2 40 0 1;s2 4 40 0 1;"), 0, 0, 0, 0);
+        same("2 alone has fewer than 0 and 1, though it is more", fewer.laws(0, 1), 4);
+        same("hour 0 counts", fewer.laws(1, 1), 0);
         same("no such sleeper", x.laws(8, 0), UNKNOWN);
         same("below", x.laws(-1, 5), UNKNOWN);
         for (int odd : ODD) {
@@ -700,9 +791,19 @@ public final class PromiseTests {
         same("nothing changes", x.sleeper(1, 0), 1);
         x.hour(5);
         same("from a new evening", x.pitches(1, 0, 0), tuned);
+        SnoreCars early = lying(of("k2;s0 9 3 0 1;s1 0 8 4 5;"), 0, 0);
+        same("hour 0 counts", early.pitches(1, 2, 0), 4095 & ~tuned);
+        same("that of the other, on its own", early.pitches(0, 2, 0), 4095 & ~1906);
+        SnoreCars zero = lying(of("k2;i0,3;s11 9 3 0 1;s1 0 8 4 5;"), 0, 0);
+        same("2, 8 and 11 are in tune with 11", zero.pitches(1, 0, 0), 2308);
+        same("test of 2 and 11: 5 is 3 from 2, 6 from 11", zero.pitches(1, 0, 1), 5);
+        same("test of 0 and 10: 0", zero.pitches(1, 2, 1), 0);
         SnoreCars one = lying(of("k2;i0;s7 9 3 0 12;s1 0 8 4 5;"), 0, 0);
         same("one pitch", one.pitches(1, 0, 0), 128);
         same("no test of one", one.pitches(1, 0, 1), NONE);
+        SnoreCars none = lying(of("k2;i0;s0 9 3 0 12;s1 0 8 4 5;"), 0, 0);
+        same("pitch 0 alone", none.pitches(1, 0, 0), 1);
+        same("no test of it", none.pitches(1, 0, 1), NONE);
         SnoreCars all = lying(of("k2;i0,1,2,3,4,5,6;s7 9 3 0 12;s1 0 8 4 5;"), 0, 0);
         same("all", all.pitches(0, 0, 0), 4095);
         same("no test tells them", all.pitches(0, 0, 1), NONE);
@@ -728,6 +829,12 @@ public final class PromiseTests {
         same("from a new evening", x.bestCar(1, 0), 0);
         same("from a new evening", x.bestCar(1, 1), 2);
         same("nothing changes", x.told(6), 3);
+        SnoreCars best = lying(of("k4,3;s0 9 3 0 1;s1 9 3 0 1;s4 9 3 0 1;s1 9 3 0 1;"), 0, 0, 1);
+        same("two wake by themselves; 3 is in tune in car 1", best.bestCar(3, 0), 1);
+        same("three wake with it in car 0, two in car 1", best.bestCar(3, 1), 1);
+        SnoreCars middle = lying(of("k2,3,3;s0 9 3 0 1;s2 9 3 0 1;s3 9 3 0 1;s1 9 3 0 1;"), 0, 1, 1);
+        same("four wake with it in car 0, three in car 1, two in car 2", middle.bestCar(3, 0), 2);
+        same("four less two", middle.bestCar(3, 1), 2);
         SnoreCars full = lying(of("k1,1;s0 0 0 0 0;s0 0 0 0 0;s0 0 0 0 0;"), 0, 1);
         same("none is free", full.bestCar(2, 0), NONE);
         same("none is free", full.bestCar(2, 1), NONE);
