@@ -921,7 +921,8 @@ public final class SnoreCars {
                 lay(pitch, s, at(train.pitch, s));
                 lay(loud, s, at(train.loud, s));
                 lay(depth, s, at(train.depth, s));
-                for (int h = at(train.from, s); h < at(train.to, s); h++) {
+                int end = Math.min(at(train.to, s), HOURS);
+                for (int h = at(train.from, s); h < end; h++) {
                     lay(snoringAt, h, at(snoringAt, h) | 1 << s);
                 }
             }

@@ -1,6 +1,7 @@
 /** Counts the checks of a test, prints those that fail, and ends the test with its exit code. */
 final class Checks {
     private final String test;
+    private String sentence = "";
     private int right;
     private int wrong;
 
@@ -8,12 +9,17 @@ final class Checks {
         this.test = test;
     }
 
+    /** The sentence of the document, in its words, that the checks from here on are about. */
+    void sentence(String words) {
+        sentence = "[" + words + "] ";
+    }
+
     void same(String what, long got, long due) {
         if (got == due) {
             right++;
         } else {
             wrong++;
-            System.out.println(test + ": " + what + " answered " + got + ", due is " + due);
+            System.out.println(test + ": " + sentence + what + " answered " + got + ", due is " + due);
         }
     }
 
@@ -22,7 +28,7 @@ final class Checks {
             right++;
         } else {
             wrong++;
-            System.out.println(test + ": " + what);
+            System.out.println(test + ": " + sentence + what);
         }
     }
 

@@ -57,26 +57,15 @@ public final class PromiseTests {
     }
 
     private static SnoreCars feed(SnoreCars x, String text) {
-        for (int i = 0; i < text.length(); i++) {
-            x.feed(text.charAt(i));
-        }
-        return x;
+        return Trains.feed(x, text);
     }
 
-    /** An object whose train is told by the text. */
     private static SnoreCars of(String text) {
-        SnoreCars x = feed(new SnoreCars(), text);
-        same("train() of " + text + " not refused", x.train() >= 0 ? 1 : 0, 1);
-        return x;
+        return Trains.of(text);
     }
 
     private static SnoreCars lying(SnoreCars x, int... cars) {
-        for (int s = 0; s < cars.length; s++) {
-            if (cars[s] != NONE) {
-                x.put(s, cars[s]);
-            }
-        }
-        return x;
+        return Trains.lying(x, cars);
     }
 
     private static void read(String text, int answer, int place) {
@@ -856,7 +845,6 @@ public final class PromiseTests {
         same("an empty one", x.alike(0, 2), NONE);
         x.off(2);
         same("fewer", x.alike(0, 1), NONE);
-        lying(of(COAST));
         SnoreCars twice = lying(of("k3,3;s0 0 0 0 0;s0 0 0 0 0;s6 0 0 0 0;s6 0 0 0 0;s6 0 0 0 0;s0 0 0 0 0;"),
             0, 0, 0, 1, 1, 1);
         same("each as often", twice.alike(0, 1), 6);
