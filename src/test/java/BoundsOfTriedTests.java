@@ -722,8 +722,11 @@ public final class BoundsOfTriedTests {
             Trains.feed(x, texts[which]);
             same("train()", x.train(), answers[which]);
             same("madeUp(0)", x.madeUp(0), 0);
+            Trains.lying(x, 0, 0);
+            if (which == 0) {
+                same("a car to go to", x.moves(0), 1);
+            }
             if (which == 2) {
-                Trains.lying(x, 0, 0);
                 same("fewest", x.madeUp(NONE), 2);
                 same("no other car", x.bestCar(0, 0), 0);
                 same("none worse", x.bestCar(0, 1), 0);
