@@ -25,6 +25,7 @@ public final class BoundsOfBooksTests {
         whatAnImageKeeps();
         notKept();
         nothingCanBeUndone();
+        undoneBehindAnImage();
         imagesStay();
         checks.end();
     }
@@ -89,6 +90,15 @@ public final class BoundsOfBooksTests {
                 same("write", x.write(n % 2, (n % 2 == 1) == isTrue), n + 1);
             }
             same("from entry " + wrong + " on all are wrong", x.judge(), wrong == 15 ? NONE : wrong);
+        }
+        for (int right = 0; right < 15; right++) {
+            SnoreCars x = of(WOKEN, 0, 0);
+            for (int n = 0; n < 15; n++) {
+                x.write(n == right ? 1 : 0, n == right);
+            }
+            same("entry " + right + " tells of 1, the others of 0", x.judge(), NONE);
+            x.off(1);
+            same("that entry alone is wrong", x.judge(), right);
         }
         SnoreCars both = of("k7,1;" + Trains.sleepers(6) + "s0 9 40 0 12;s1 0 8 0 0;", 0, 0, 0, 0, 0, 0, 0, 1);
         both.write(7, true);
@@ -250,6 +260,28 @@ public final class BoundsOfBooksTests {
         same("goBack(1), not kept", x.goBack(1), NOT);
         same("keep(2)", x.keep(2), UNKNOWN);
         same("what is refused leaves it", x.told(9), 1);
+    }
+
+    private static void undoneBehindAnImage() {
+        checks.sentence("(nothing can be undone then; from then on 20 at most are kept)");
+        for (int before = 0; before <= 45; before += 3) {
+            SnoreCars x = of("k1;");
+            for (int n = 0; n < before; n++) {
+                x.evening();
+            }
+            x.keep(0);
+            x.hour(1);
+            x.goBack(0);
+            for (int n = 1; n <= 25; n++) {
+                same("done behind " + before, n == 13 ? x.evening() : x.hour(1), n % 13);
+                same("kept", x.told(9), Math.min(n, 20));
+            }
+            for (int n = 19; n >= 0; n--) {
+                same("undo() behind " + before, x.undo(), n);
+                same("the hour", x.told(5), (n + 5) % 13);
+            }
+            same("nothing more", x.undo(), NOT);
+        }
     }
 
     private static void imagesStay() {

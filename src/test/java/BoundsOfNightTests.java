@@ -30,6 +30,8 @@ public final class BoundsOfNightTests {
         toldWhat();
         carWhat();
         sleeperWhat();
+        eachSleeperItsOwn();
+        eachAwakeOrNot();
         noiseIsNone();
         intervalOfSleepers();
         put();
@@ -316,6 +318,40 @@ public final class BoundsOfNightTests {
         same("of one sleeper", of("k1;s3 0 0 0 0;").sleeper(0, 0), 3);
     }
 
+    private static void eachSleeperItsOwn() {
+        checks.sentence("Of a SLEEPER: 0 PITCH, 1 LOUD, 2 DEPTH, 3 A, 4 Z (of each as it was told)");
+        StringBuilder text = new StringBuilder("k1;");
+        for (int s = 0; s < 8; s++) {
+            text.append('s').append(11 - s).append(' ').append(s + 2).append(' ').append(40 - s).append(' ')
+                .append(s + 1).append(' ').append(s + 5).append(';');
+        }
+        SnoreCars x = of(text.toString());
+        for (int s = 0; s < 8; s++) {
+            int[] due = {11 - s, s + 2, 40 - s, s + 1, s + 5};
+            for (int what = 0; what < due.length; what++) {
+                same("sleeper(" + s + ", " + what + ")", x.sleeper(s, what), due[what]);
+            }
+        }
+    }
+
+    private static void eachAwakeOrNot() {
+        checks.sentence("6 1 AWAKE, 0 not; who has more NOISE than DEPTH wakes, nobody else");
+        for (int set = 0; set < 128; set++) {
+            StringBuilder text = new StringBuilder("k8;");
+            for (int s = 0; s < 7; s++) {
+                text.append("s0 0 ").append((set >> s & 1) == 1 ? 8 : 9).append(" 0 0;");
+            }
+            SnoreCars x = of(text + "s1 9 40 0 12;", 0, 0, 0, 0, 0, 0, 0, 0);
+            same("all awake by " + set, x.wake(), set);
+            x.hour(1);
+            same("the set", x.told(6), set);
+            for (int s = 0; s < 7; s++) {
+                same("of " + set + ", sleeper(" + s + ", 6)", x.sleeper(s, 6), set >> s & 1);
+                same("of " + set + ", noise for " + s, x.sleeper(s, 8), (set >> s & 1) == 1 ? 0 : 9);
+            }
+        }
+    }
+
     private static void noiseIsNone() {
         checks.sentence("8 NOISE at this HOUR (0: AWAKE, on the platform, in the morning)");
         SnoreCars x = of("k3;s0 9 40 0 12;s1 9 9 0 0;s2 0 8 0 0;", 0, 0, 0);
@@ -330,6 +366,18 @@ public final class BoundsOfNightTests {
         same("at hour 11", x.sleeper(1, 8), 9);
         x.hour(1);
         same("in the morning", x.sleeper(1, 8), 0);
+        SnoreCars all = of("k8;i6;" + "s0 1 40 0 12;".repeat(8), 0, 0, 0, 0, 0, 0, 0, 0);
+        for (int h = 0; h < 12; h++) {
+            for (int s = 0; s < 8; s++) {
+                same("of eight, for " + s + " at hour " + h, all.sleeper(s, 8), 7);
+            }
+            same("out of tune at hour " + h, all.car(0, 2), 1);
+            all.hour(1);
+        }
+        for (int s = 0; s < 8; s++) {
+            same("in the morning none for " + s, all.sleeper(s, 8), 0);
+        }
+        same("nor out of tune", all.car(0, 2), 0);
     }
 
     private static void intervalOfSleepers() {

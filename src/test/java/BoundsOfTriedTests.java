@@ -15,6 +15,7 @@ public final class BoundsOfTriedTests {
     public static void main(String[] args) {
         wake();
         wakeOfAwake();
+        wakeByEachHour();
         shunted();
         shuntedByHoursThenNumbers();
         shuntedByWhoSnoresThen();
@@ -99,6 +100,18 @@ public final class BoundsOfTriedTests {
         same("in the morning nobody more", morning.wake(), 0);
     }
 
+    private static void wakeByEachHour() {
+        checks.sentence("WAKE till morning (by who SNORES at each HOUR to come)");
+        SnoreCars later = of("k2;s0 9 8 0 12;s1 9 40 1 12;", 0, 0);
+        same("at hour 1 both snore, as they do from then on", later.wake(), 1);
+        SnoreCars between = of("k2;s0 0 8 0 0;s1 9 40 5 6;", 0, 0);
+        same("one hour in which somebody does", between.wake(), 1);
+        SnoreCars growing = of("k3;s0 0 17 0 0;s1 9 40 0 12;s1 9 40 4 5;", 0, 0, 0);
+        same("two together in one hour", growing.wake(), 1);
+        SnoreCars turns = of("k3;s0 0 17 0 0;s1 9 40 0 4;s1 9 40 4 12;", 0, 0, 0);
+        same("two, never together", turns.wake(), 0);
+    }
+
     private static void shunted() {
         checks.sentence("SHUNTED: the first CAR OUT OF TUNE from now on: its HOUR; CAR; NONE");
         SnoreCars first = of("k1,1,1,2;s0 0 0 0 1;s1 0 0 0 1;", 3, 3);
@@ -156,6 +169,13 @@ public final class BoundsOfTriedTests {
             same("of eight in four cars, " + s, eight.madeUp(s), due[s]);
         }
         same("one berth too few", of("k1,1,1,4;" + Trains.sleepers(8)).madeUp(7), NONE);
+        SnoreCars alone = of("k1;s0 9 0 0 12;");
+        same("one in one berth", alone.madeUp(NONE), 0);
+        same("it is car 0", alone.madeUp(0), 0);
+        SnoreCars crowd = of("k8;i6;" + "s0 9 0 0 1;".repeat(8));
+        same("all eight have to lie together: all wake", crowd.madeUp(NONE), 8);
+        same("in car 0", crowd.madeUp(7), 0);
+        same("by pairs all wake, too", of("k2,2,2,2;i6;" + "s0 9 0 0 1;".repeat(8)).madeUp(NONE), 8);
     }
 
     private static void madeUpCouples() {
@@ -174,6 +194,10 @@ public final class BoundsOfTriedTests {
         for (int s = 0; s < due.length; s++) {
             same("four couples, " + s, four.madeUp(s), due[s]);
         }
+        SnoreCars between = of("k1,2;" + Trains.sleepers(3) + "c2 0;");
+        same("0 and 2 lie together", between.madeUp(0), 1);
+        same("1 is no part of it", between.madeUp(1), 0);
+        same("2 and 0 lie together", between.madeUp(2), 1);
         same("five berths for three couples", of("k1,1,2,5;" + Trains.sleepers(8) + "c0 7;c1 6;c2 5;c3 4;").madeUp(NONE),
             NONE);
     }
@@ -190,6 +214,12 @@ public final class BoundsOfTriedTests {
         same("one wakes by the first of all, nobody by the second", one.madeUp(NONE), 0);
         same("0 by the second", one.madeUp(0), 0);
         same("1 by the second", one.madeUp(1), 1);
+        SnoreCars last = of("k1,1,1,5;i0;" + "s0 9 0 0 12;".repeat(5) + "s1 9 0 0 12;s2 9 0 0 12;s3 9 0 0 12;");
+        same("five of one pitch fit into the last car alone", last.madeUp(NONE), 0);
+        int[] lastDue = {3, 3, 3, 3, 3, 0, 1, 2};
+        for (int s = 0; s < lastDue.length; s++) {
+            same("car of " + s + ", far from the first of all", last.madeUp(s), lastDue[s]);
+        }
         SnoreCars couple = of("k2,3;s0 0 0 0 0;s0 0 0 0 0;s0 0 0 0 0;c0 2;");
         same("0", couple.madeUp(0), 0);
         same("1", couple.madeUp(1), 1);
@@ -265,6 +295,10 @@ public final class BoundsOfTriedTests {
         same("three would do", three.moves(NONE), NONE);
         same("no first", three.moves(0), NONE);
         same("without one of them two do", Trains.lying(three, 1).moves(NONE), 2);
+        SnoreCars all = of("k8,1,1;i6;" + "s0 9 0 0 12;".repeat(8), 0, 0, 0, 0, 0, 0, 0, 0);
+        same("all eight lie together: six still do behind two", all.moves(NONE), NONE);
+        SnoreCars only = of("k8;i6;" + "s0 9 0 0 12;".repeat(8), 0, 0, 0, 0, 0, 0, 0, 0);
+        same("all eight in the only car", only.moves(NONE), NONE);
     }
 
     private static void freeBerth() {
@@ -323,6 +357,15 @@ public final class BoundsOfTriedTests {
         same("two", pairs.moves(NONE), 2);
         same("0 into car 2", pairs.moves(0), 2);
         same("then 2 into car 0: 1 and 2 would be out of tune; 2 into car 3", pairs.moves(1), 23);
+        SnoreCars tried = of("k4,1,1;i0;s1 9 8 0 12;s1 9 8 0 12;s2 9 8 0 12;s3 9 8 0 12;", 0, 0, 0, 0);
+        same("two", tried.moves(NONE), 2);
+        same("0 and 1 stay: 2 into car 1", tried.moves(0), 21);
+        same("then 3 into car 2", tried.moves(1), 32);
+        SnoreCars mixed = of("k2,2,2,1;i0;s1 9 8 0 12;s2 9 8 0 12;s1 9 8 0 12;s2 9 8 0 12;s3 9 8 0 12;s4 9 8 0 12;",
+            0, 0, 1, 1, 2, 2);
+        same("a put and an exchange", mixed.moves(NONE), 2);
+        same("4 into car 3", mixed.moves(0), 43);
+        same("then 0 and 3, ahead of 1 and 2", mixed.moves(1), 103);
         SnoreCars back = of("k2,2,1;i0;s1 9 8 0 12;s2 9 8 0 12;s2 9 8 0 12;s1 9 8 0 12;", 0, 0, 1, 1);
         same("one exchange is fewer than two puts", back.moves(NONE), 1);
         same("0 and 2", back.moves(0), 102);
@@ -734,6 +777,12 @@ public final class BoundsOfTriedTests {
                 same("both wake", x.wake(), 3);
                 same("two snore", x.sounds(0, 11, 1), 18);
             }
+        }
+        Trains.feed(x, "k1,1;" + Trains.sleepers(3));
+        same("a berth too few", x.train(), 2);
+        same("fewest", x.madeUp(NONE), NONE);
+        for (int s = 0; s < 3; s++) {
+            same("made up anew: none, " + s, x.madeUp(s), NONE);
         }
         Trains.feed(x, "k1,1,4;s0 0 0 0 0;s5 7 0 2 4;s5 0 0 0 0;c0 2;");
         same("three cars", x.train(), 3);
