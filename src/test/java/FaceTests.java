@@ -8,8 +8,10 @@ import java.nio.file.Files;
 import java.nio.file.Path;
 import java.util.ArrayList;
 import java.util.Arrays;
+import java.util.HashMap;
 import java.util.HashSet;
 import java.util.List;
+import java.util.Map;
 import java.util.Set;
 import java.util.TreeSet;
 import java.util.regex.Matcher;
@@ -27,6 +29,9 @@ public final class FaceTests {
     private static final String[] FORBIDDEN = {"throw", "throws", "try", "catch", "synchronized", "assert",
         "protected", "instanceof", "finally", "equals", "hashCode", "toString", "System", "MAX_VALUE"};
     private static final int MOST_LINES = 60, MOST_PARAMETERS = 7, MOST_CLASSES = 12, MOST_FIELDS = 20;
+    private static final int MOST_DEPTH = 8;
+    private static final Pattern METHOD = Pattern.compile("( {4,8})\\w.* (\\w+)\\(.*\\) \\{");
+    private static final Pattern CALL = Pattern.compile("\\b(\\w+)\\(");
 
     private static final Checks checks = new Checks("FaceTests");
 
@@ -128,6 +133,7 @@ public final class FaceTests {
         }
         checks.holds("rows made by a call", newOutsideConstructors(code) == 0);
         methodLengths(code);
+        callDepths(code);
     }
 
     /** All rows are made with the object: 'new' stands in constructors and in the fields of classes alone. */
@@ -161,5 +167,45 @@ public final class FaceTests {
                 checks.holds("too long: " + lines[i].trim(), n < MOST_LINES);
             }
         }
+    }
+
+    /** Methods of one name count as one, so that no depth is told too small. */
+    private static void callDepths(String code) {
+        Map<String, Set<String>> calls = new HashMap<>();
+        String name = null;
+        String end = null;
+        for (String line : code.split("\n")) {
+            Matcher method = METHOD.matcher(line);
+            if (name == null && method.matches()) {
+                name = method.group(2);
+                end = method.group(1) + "}";
+                calls.putIfAbsent(name, new TreeSet<>());
+            } else if (line.equals(end)) {
+                name = null;
+            } else if (name != null) {
+                Matcher call = CALL.matcher(line);
+                while (call.find()) {
+                    calls.get(name).add(call.group(1));
+                }
+            }
+        }
+        for (Method m : SnoreCars.class.getDeclaredMethods()) {
+            checks.holds(m.getName() + " was not found in the file", calls.containsKey(m.getName()));
+        }
+        for (String one : calls.keySet()) {
+            int depth = depthOf(one, calls, MOST_DEPTH + 1);
+            checks.holds("calls go too deep, or come back: " + one, depth <= MOST_DEPTH);
+        }
+    }
+
+    /** How deep calls go from a method of the file on, itself counted; no deeper than a limit is looked. */
+    private static int depthOf(String name, Map<String, Set<String>> calls, int limit) {
+        int deepest = 0;
+        for (String called : calls.get(name)) {
+            if (limit > 1 && calls.containsKey(called)) {
+                deepest = Math.max(deepest, depthOf(called, calls, limit - 1));
+            }
+        }
+        return deepest + 1;
     }
 }
