@@ -15,7 +15,9 @@ public final class BoundsOfTriedTests {
     public static void main(String[] args) {
         wake();
         wakeOfAwake();
+        wakeInEachCar();
         wakeByEachHour();
+        wakeByOneAfterAnother();
         shunted();
         shuntedByHoursThenNumbers();
         shuntedByWhoSnoresThen();
@@ -31,6 +33,8 @@ public final class BoundsOfTriedTests {
         freeBerth();
         exchange();
         numbersOfMoves();
+        eachPut();
+        eachExchange();
         movesInOrder();
         movesNow();
         movesOfWhom();
@@ -100,6 +104,30 @@ public final class BoundsOfTriedTests {
         same("in the morning nobody more", morning.wake(), 0);
     }
 
+    private static void wakeInEachCar() {
+        checks.sentence("SLEEPERS AWAKE then (of all CARS; who is AWAKE does not SNORE)");
+        for (int k = 0; k < 4; k++) {
+            SnoreCars x = of("k3,3,3,3;" + TWO_WAKE + "s0 9 40 0 12;s1 0 8 0 0;", k, k, 3 - k);
+            same("both in car " + k, x.wake(), 3);
+            same("till morning", x.hour(12), 12);
+            same("awake then", x.told(6), 3);
+            x.evening();
+            x.put(3, 3 - k);
+            same("and one of two in car " + (3 - k), x.wake(), 11);
+            x.hour(1);
+            same("awake behind an hour", x.told(6), 11);
+        }
+        SnoreCars silent = of("k3,1;s0 9 8 0 12;s1 9 40 0 1;s1 0 8 0 12;", 0, 0);
+        silent.hour(1);
+        same("0 is awake", silent.told(6), 1);
+        silent.put(2, 0);
+        same("and wakes nobody more", silent.wake(), 1);
+        silent.hour(12);
+        same("nor has it", silent.told(6), 1);
+        silent.evening();
+        same("from a new evening both wake", silent.wake(), 5);
+    }
+
     private static void wakeByEachHour() {
         checks.sentence("WAKE till morning (by who SNORES at each HOUR to come)");
         SnoreCars later = of("k2;s0 9 8 0 12;s1 9 40 1 12;", 0, 0);
@@ -110,6 +138,37 @@ public final class BoundsOfTriedTests {
         same("two together in one hour", growing.wake(), 1);
         SnoreCars turns = of("k3;s0 0 17 0 0;s1 9 40 0 4;s1 9 40 4 12;", 0, 0, 0);
         same("two, never together", turns.wake(), 0);
+        for (int h = 0; h < 12; h++) {
+            for (int set = 1; set < 16; set++) {
+                StringBuilder text = new StringBuilder("k5;");
+                for (int s = 0; s < 4; s++) {
+                    text.append("s0 9 40 ").append(h).append(' ').append(h + (set >> s & 1)).append(';');
+                }
+                same("by " + set + " at hour " + h, of(text + "s1 0 8 0 0;", 0, 0, 0, 0, 0).wake(), 16);
+            }
+        }
+    }
+
+    private static void wakeByOneAfterAnother() {
+        checks.sentence("WAKE till morning (one HOUR wakes nobody, a later one does)");
+        for (int n = 0; n < 4 * 3 * 66; n++) {
+            int low = n % 4;
+            int loud = (low + 1 + n / 4 % 3) % 4;
+            int rest = n / 12;
+            int late = 1;
+            while (rest >= late) {
+                rest -= late;
+                late++;
+            }
+            StringBuilder text = new StringBuilder("k5;");
+            for (int s = 0; s < 4; s++) {
+                int hour = s == low ? rest : late;
+                text.append('s').append(s == low ? "0 1 40 " : "0 9 40 ").append(hour).append(' ')
+                    .append(s == low || s == loud ? hour + 1 : hour).append(';');
+            }
+            SnoreCars x = of(text + "s1 0 8 0 0;", 0, 0, 0, 0, 0);
+            same(low + " at hour " + rest + ", then " + loud + " at hour " + late, x.wake(), 16);
+        }
     }
 
     private static void shunted() {
@@ -152,6 +211,20 @@ public final class BoundsOfTriedTests {
         same("1 wakes at hour 0", x.shunted(0), NONE);
         SnoreCars deeper = of("k3;s0 9 40 0 1;s1 0 9 1 3;s2 0 40 2 3;", 0, 0, 0);
         same("1 sleeps on", deeper.shunted(0), 2);
+        SnoreCars later = of("k3,1;s0 9 40 3 4;s1 0 8 4 6;s2 0 40 5 6;", 0, 0, 0);
+        same("1 wakes at hour 3", later.shunted(0), NONE);
+        later.hour(3);
+        same("1 wakes now", later.shunted(1), NONE);
+        later.off(0);
+        later.hour(1);
+        same("1 was not woken", later.shunted(0), 5);
+        SnoreCars early = of("k3;s0 9 40 0 1;s1 0 8 4 6;s2 0 40 5 6;", 0, 0);
+        early.hour(1);
+        early.put(2, 0);
+        same("1 is awake now", early.shunted(0), NONE);
+        SnoreCars other = of("k2,2;s0 9 40 2 3;s1 0 8 7 8;s0 0 40 7 8;s1 0 40 7 8;", 0, 0, 1, 1);
+        same("car 0 has woken one, car 1 has not", other.shunted(0), 7);
+        same("car 1", other.shunted(1), 1);
     }
 
     private static void madeUpBerths() {
@@ -347,6 +420,67 @@ public final class BoundsOfTriedTests {
         same("0 into car 0", least.moves(0), 0);
         SnoreCars lesser = of("k1,2;i0;s0 0 40 0 0;s1 9 8 0 12;s2 9 8 0 12;", 0, 1, 1);
         same("0 and 1", lesser.moves(0), 101);
+    }
+
+    /** Pitches and cars, sleeper by sleeper, as a train of the law i0 and these berths; all snore all night. */
+    private static SnoreCars lyingBy(String berths, int[] pitches, int[] cars) {
+        StringBuilder text = new StringBuilder(berths).append("i0;");
+        for (int pitch : pitches) {
+            text.append('s').append(pitch).append(" 9 8 0 12;");
+        }
+        return of(text.toString(), cars);
+    }
+
+    private static void eachPut() {
+        checks.sentence("puts one SLEEPER into another CAR with a free BERTH (whoever it is, from and to whichever)");
+        for (int n = 0; n < 4 * 3 * 6; n++) {
+            int from = n % 4;
+            int to = (from + 1 + n / 4 % 3) % 4;
+            int[] pitches = new int[6];
+            int[] cars = new int[6];
+            int place = n / 12;
+            for (int k = 0; k < 4; k++) {
+                for (int side = 0; side < 2 && k != to; side++) {
+                    pitches[place % 6] = k == from ? 10 + side : k;
+                    cars[place % 6] = k;
+                    place += 5;
+                }
+            }
+            String berths = "k2,2,2,2;".substring(0, 2 * to + 1) + "1" + "k2,2,2,2;".substring(2 * to + 2);
+            SnoreCars x = lyingBy(berths, pitches, cars);
+            int first = 0;
+            while (cars[first] != from) {
+                first++;
+            }
+            same("from " + from + " to " + to, x.moves(NONE), 1);
+            same("the lesser one of both", x.moves(0), 10 * first + to);
+        }
+    }
+
+    private static void eachExchange() {
+        checks.sentence("exchanges two that are in unlike CARS (whoever they are, in whichever)");
+        for (int n = 0; n < 4 * 3 * 8; n++) {
+            int one = n % 4;
+            int other = (one + 1 + n / 4 % 3) % 4;
+            int[] pitches = new int[8];
+            int[] cars = new int[8];
+            int[] mixed = new int[8];
+            for (int j = 0; j < 8; j++) {
+                int s = (3 * j + n / 12) % 8;
+                cars[s] = j / 2;
+                boolean isMixed = j / 2 == one || j / 2 == other;
+                pitches[s] = isMixed ? 10 + j % 2 : j / 2;
+                mixed[isMixed ? (j / 2 == one ? 0 : 2) + j % 2 : 4 + j % 4] = s;
+            }
+            SnoreCars x = lyingBy("k2,2,2,2;", pitches, cars);
+            int low = Math.min(exchange(mixed[0], mixed[3]), exchange(mixed[1], mixed[2]));
+            same("of cars " + one + " and " + other, x.moves(NONE), 1);
+            same("the lesser one of two", x.moves(0), low);
+        }
+    }
+
+    private static int exchange(int a, int b) {
+        return 100 + 10 * Math.min(a, b) + Math.max(a, b);
     }
 
     private static void movesInOrder() {
@@ -558,6 +692,20 @@ public final class BoundsOfTriedTests {
         x.hour(12);
         x.put(0, 0);
         same("from a new evening", x.bestCar(0, 0), 1);
+        String six = "s0 9 40 0 1;s0 9 40 0 1;s1 0 8 0 0;s1 0 8 0 0;s1 9 8 0 1;";
+        SnoreCars fewer = of("k3,4;" + six, 0, 1, 0, 1, 0);
+        same("in car 0 two and one in car 1 wake, in car 1 as many: the least", fewer.bestCar(4, 0), 0);
+        same("as many", fewer.bestCar(4, 1), 0);
+        SnoreCars first = of("k3,4,3;s0 9 40 0 1;s1 9 40 0 1;s0 0 8 0 0;s0 0 8 0 0;s0 9 8 0 0;", 0, 1, 1, 1);
+        same("two wake in car 1, with 4 there three: the first of those where it is alone or in tune",
+            first.bestCar(4, 0), 0);
+        same("one fewer", first.bestCar(4, 1), 1);
+        first.put(1, 0);
+        first.put(0, 1);
+        same("4 would wake in car 0, nobody in car 1", first.bestCar(4, 0), 1);
+        first.put(2, 0);
+        same("2 wakes in car 0: one; with 4 there two", first.bestCar(4, 1), 1);
+        same("car 1 ahead of car 2", first.bestCar(4, 0), 1);
         SnoreCars late = of("k2,2;s0 9 40 11 12;s1 0 8 0 0;", 0);
         same("hour 11 counts", late.bestCar(1, 0), 1);
         SnoreCars even = of("k2,2;s0 9 40 11 12;s1 0 9 0 0;", 0);
@@ -663,6 +811,19 @@ public final class BoundsOfTriedTests {
             same("no set", x.sounds(0, 1, 0), 0);
             same("no bass", x.sounds(0, 1, 2), NONE);
         }
+        SnoreCars some = of("k8,8;i0,1,2,3,4,5,6;s1 1 0 0 3;s4 2 0 1 2;s6 4 0 0 3;s9 8 0 0 3;s4 3 0 2 3;", 0, 0, 0, 1, 0);
+        int[] chords = {2 + 64, 2 + 16 + 64, 2 + 64 + 16, 0};
+        int[] loud = {5, 7, 8, 0};
+        int[] bass = {1, 1, 1, NONE};
+        for (int h = 0; h < 4; h++) {
+            same("who snores at hour " + h, some.sounds(0, h, 0), chords[h]);
+            same("how loud", some.sounds(0, h, 1), loud[h]);
+            same("the bass", some.sounds(0, h, 2), bass[h]);
+            same("the other car", some.sounds(1, h, 0), h < 3 ? 512 : 0);
+        }
+        some.off(0);
+        same("without 0", some.sounds(0, 1, 0), 16 + 64);
+        same("the bass without 0", some.sounds(0, 1, 2), 4);
         SnoreCars all = of("k8;" + "s11 9 40 0 12;".repeat(7) + "s7 9 40 0 12;", 0, 0, 0, 0, 0, 0, 0, 0);
         same("both", all.sounds(0, 5, 0), 2048 + 128);
         same("eight times 9", all.sounds(0, 5, 1), 72);
