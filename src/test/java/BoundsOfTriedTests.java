@@ -167,7 +167,11 @@ public final class BoundsOfTriedTests {
                     .append(s == low || s == loud ? hour + 1 : hour).append(';');
             }
             SnoreCars x = of(text + "s1 0 8 0 0;", 0, 0, 0, 0, 0);
-            same(low + " at hour " + rest + ", then " + loud + " at hour " + late, x.wake(), 16);
+            for (int h = 0; h <= late; h++) {
+                same(low + " at hour " + rest + ", then " + loud + " at hour " + late + "; now " + h, x.wake(), 16);
+                x.hour(1);
+            }
+            same("awake behind it", x.told(6), 16);
         }
     }
 
